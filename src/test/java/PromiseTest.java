@@ -459,6 +459,9 @@ public final class PromiseTest {
         LobbyMaker z = roles(3, 3, 3, 7, 7, 7);
         queueAll(z, 7, 56);
         due("make() with three for two roles in a party", z.make(), LobbyMaker.NONE);
+        LobbyMaker z2 = roles(7, 7, 7, 3, 3, 3);
+        queueAll(z2, 7, 56);
+        due("make() with three for two roles in the other party", z2.make(), LobbyMaker.NONE);
         LobbyMaker v = roles(3, 5, 6, 1, 6, 6);
         queueAll(v, 7, 56);
         due("make() with roles that go round", v.make(), 0);
@@ -688,6 +691,16 @@ public final class PromiseTest {
         ratingsDue(finished(0, 4000, 3990, 3979, 10, 22, 0), 4000, 3992, 3981, 7, 19, 0);
         ratingsDue(finished(0, 4000, 3990, 3979, 4000, 3990, 3979), 4000, 4000, 4000, 3978, 3968, 3957);
         ratingsDue(finished(1, 0, 21, 22, 0, 21, 22), 0, 0, 0, 21, 42, 43);
+        // 340 apart is a share of 840: 350 * 160 / 8000 is 7 without a rest.
+        ratingsDue(finished(0, 1340, 1340, 1340, 1000, 1000, 1000), 1347, 1347, 1347, 993, 993, 993);
+        // In the second match the uncertainty is 315: 315 * 50 / 8000 is 1 and nearly 2.
+        LobbyMaker z = finished(0, 3000, 3000, 3000, 1000, 1000, 1000);
+        queueAll(z, 7, 56);
+        z.pass(1000);
+        z.make();
+        acceptAll(z, 1, 63);
+        z.finish(1, 0);
+        ratingsDue(z, 3003, 3003, 3003, 995, 995, 995);
         LobbyMaker x = finished(0, 1000, 1000, 1000, 1000, 1000, 1000);
         x.addPlayer(1000, 7);
         queueAll(x, 1 + 2 + 64, 56);

@@ -421,6 +421,8 @@ public final class RandomRunsTest {
             for (int i = 0; i < OPERATIONS; i++) {
                 weights[i] = usual[i] * (1 + random.nextInt(4));
             }
+            weights[13] *= random.nextInt(2) == 0 ? 1 : 6;
+            weights[20] *= late == 1000 && random.nextInt(8) == 0 ? 100 : 1;
         }
 
         int operation() {
