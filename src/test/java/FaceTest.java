@@ -8,7 +8,7 @@ import java.util.List;
 import java.util.TreeSet;
 
 /** The public face of the document, and nothing else that can be seen from outside. */
-public final class FaceTest {
+public final class FaceTest extends LobbyTest {
     private static final String[] METHODS = {
         "int addPlayer(int, int) IllegalArgumentException, IllegalStateException",
         "int queue(int) IllegalArgumentException, IllegalStateException",
@@ -37,15 +37,6 @@ public final class FaceTest {
     private static final String[] CONSTANTS = {
         "NONE = -1", "IDLE = 0", "QUEUING = 1", "IN_MATCH = 2", "MADE = 0", "ON = 1", "OFF = 2", "FINISHED = 3",
     };
-
-    private static int wrong = 0;
-
-    private static void due(String what, Object got, Object want) {
-        if (!got.equals(want)) {
-            wrong++;
-            System.out.println(what + ": " + got + ", due is " + want);
-        }
-    }
 
     private static String names(Class<?>[] classes) {
         List<String> names = new ArrayList<>();
@@ -109,9 +100,6 @@ public final class FaceTest {
         }
         methods();
         fields();
-        System.out.println(wrong == 0 ? "the face is as due" : wrong + " parts of the face are not as due");
-        if (wrong != 0) {
-            System.exit(1);
-        }
+        end("the face is as due", "parts of the face are not as due");
     }
 }

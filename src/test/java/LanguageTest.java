@@ -12,7 +12,7 @@ import java.util.regex.Matcher;
 import java.util.regex.Pattern;
 
 /** The rules of LANGUAGE.md that can be seen in the text of the class, or by reflection. */
-public final class LanguageTest {
+public final class LanguageTest extends LobbyTest {
     private static final Path SOURCE = Path.of("src", "main", "java", "LobbyMaker.java");
 
     /** What may not stand in the code: the rule and a pattern of it. */
@@ -30,13 +30,6 @@ public final class LanguageTest {
         {"12", "for \\([^;]*:"},
         {"13", "\\b(Random|Thread|Clock|Instant|File|Socket|getenv|getProperty)\\b"},
     };
-
-    private static int wrong = 0;
-
-    private static void fail(String what) {
-        wrong++;
-        System.out.println(what);
-    }
 
     private static String withoutComments(String text) {
         return text.replaceAll("(?s)/\\*.*?\\*/", "").replaceAll("//[^\n]*", "");
@@ -127,9 +120,6 @@ public final class LanguageTest {
         forbidden(code);
         lengths(text);
         sizes();
-        System.out.println(wrong == 0 ? "the rules are kept" : wrong + " breaches of the rules");
-        if (wrong != 0) {
-            System.exit(1);
-        }
+        end("the rules are kept", "breaches of the rules");
     }
 }

@@ -1,64 +1,5 @@
 /** Each promise of the document by itself: ordinary inputs, the edges that it names, and wrong inputs. */
-public final class PromiseTest {
-    private interface Call {
-        long answer();
-    }
-
-    private static final Class<?> RANGE = IllegalArgumentException.class;
-    private static final Class<?> STATE = IllegalStateException.class;
-    private static final Class<?> INDEX = IndexOutOfBoundsException.class;
-    private static final int LEAST = Integer.MIN_VALUE, MOST = Integer.MAX_VALUE;
-
-    private static int wrong = 0;
-    private static int promise = 0;
-
-    private static void fail(String what) {
-        wrong++;
-        System.out.println("promise " + promise + ": " + what);
-    }
-
-    private static void due(String call, Object got, Object want) {
-        if (!got.equals(want)) {
-            fail(call + " answered " + got + ", due is " + want);
-        }
-    }
-
-    /** The call throws just this class, and by a throw statement of LobbyMaker. */
-    private static void refused(String call, Class<?> want, Call run) {
-        try {
-            fail(call + " answered " + run.answer() + ", due is " + want);
-        } catch (RuntimeException e) {
-            boolean own = e.getStackTrace().length > 0 && e.getStackTrace()[0].getClassName().startsWith("LobbyMaker");
-            if (e.getClass() != want || !own) {
-                fail(call + " threw " + e + ", due is " + want);
-            }
-        }
-    }
-
-    private static LobbyMaker lobby(int[] ratings, int roles) {
-        LobbyMaker x = new LobbyMaker();
-        for (int rating : ratings) {
-            x.addPlayer(rating, roles);
-        }
-        return x;
-    }
-
-    private static LobbyMaker equals(int players) {
-        return lobby(ratings(players, 1000), 7);
-    }
-
-    private static int[] ratings(int count, int rating) {
-        int[] all = new int[count];
-        java.util.Arrays.fill(all, rating);
-        return all;
-    }
-
-    private static void queueAll(LobbyMaker x, int... parties) {
-        for (int party : parties) {
-            x.queue(party);
-        }
-    }
-
+public final class PromiseTest extends LobbyTest {
     /** Six players of these ratings in a match that goes on, each one a party. */
     private static LobbyMaker playing(int... ratings) {
         LobbyMaker x = lobby(ratings, 7);
@@ -67,14 +8,6 @@ public final class PromiseTest {
         due("make()", x.make(), 0);
         acceptAll(x, 0, 63);
         return x;
-    }
-
-    private static void acceptAll(LobbyMaker x, int match, int players) {
-        for (int p = 0; p < 18; p++) {
-            if ((players >> p & 1) != 0) {
-                x.accept(match, p);
-            }
-        }
     }
 
     private static void newObject() {
@@ -87,7 +20,7 @@ public final class PromiseTest {
         refused("state(0)", INDEX, () -> x.state(0));
         refused("window(0)", INDEX, () -> x.window(0));
         refused("matchState(0)", INDEX, () -> x.matchState(0));
-        LobbyMaker other = equals(3);
+        LobbyMaker other = alike(3);
         other.pass(7);
         due("players() of the first", x.players(), 0);
         due("clock() of the first", x.clock(), 0);
@@ -113,7 +46,7 @@ public final class PromiseTest {
     }
 
     private static void queue() {
-        LobbyMaker x = equals(5);
+        LobbyMaker x = alike(5);
         for (int players : new int[] {0, 15, 31, 32, 33, -1, LEAST, MOST, 1 << 18, 1 << 30}) {
             refused("queue(" + players + ")", RANGE, () -> x.queue(players));
         }
@@ -133,7 +66,7 @@ public final class PromiseTest {
     }
 
     private static void queueOneInMatch() {
-        LobbyMaker x = equals(7);
+        LobbyMaker x = alike(7);
         queueAll(x, 7, 56);
         x.make();
         refused("queue(1) in a match made", STATE, () -> x.queue(1));
@@ -145,7 +78,7 @@ public final class PromiseTest {
     }
 
     private static void queueOneBarred() {
-        LobbyMaker x = equals(7);
+        LobbyMaker x = alike(7);
         queueAll(x, 7, 56);
         x.make();
         x.decline(0, 1);
@@ -159,7 +92,7 @@ public final class PromiseTest {
     }
 
     private static void queueHundred() {
-        LobbyMaker x = equals(2);
+        LobbyMaker x = alike(2);
         for (int i = 0; i < 100; i++) {
             due("queue(1)", x.queue(1), i);
             due("leave", x.leave(i), 0);
@@ -171,7 +104,7 @@ public final class PromiseTest {
     }
 
     private static void leave() {
-        LobbyMaker x = equals(8);
+        LobbyMaker x = alike(8);
         queueAll(x, 3, 4);
         x.pass(7);
         x.queue(8);
@@ -210,7 +143,7 @@ public final class PromiseTest {
     }
 
     private static void state() {
-        LobbyMaker x = equals(7);
+        LobbyMaker x = alike(7);
         noSuchPlayer("state", x::state);
         due("state(6)", x.state(6), LobbyMaker.IDLE);
         queueAll(x, 3, 4, 56);
@@ -246,7 +179,7 @@ public final class PromiseTest {
     }
 
     private static void uncertainty() {
-        LobbyMaker x = equals(7);
+        LobbyMaker x = alike(7);
         noSuchPlayer("uncertainty", x::uncertainty);
         int[] due = {350, 315, 283, 254, 228, 205, 184, 165, 148, 133, 119, 107, 96, 86, 77, 69, 62, 55, 50, 50};
         for (int i = 0; i < due.length; i++) {
@@ -261,7 +194,7 @@ public final class PromiseTest {
     }
 
     private static void level() {
-        LobbyMaker x = equals(7);
+        LobbyMaker x = alike(7);
         noSuchPlayer("level", x::level);
         x.queue(56);
         for (int i = 0; i < 7; i++) {
@@ -288,7 +221,7 @@ public final class PromiseTest {
     }
 
     private static void barred() {
-        LobbyMaker x = equals(7);
+        LobbyMaker x = alike(7);
         noSuchPlayer("barred", x::barred);
         due("barred(0)", x.barred(0), 0);
         queueAll(x, 7, 56);
@@ -306,7 +239,7 @@ public final class PromiseTest {
     }
 
     private static void queued() {
-        LobbyMaker x = equals(12);
+        LobbyMaker x = alike(12);
         queueAll(x, 7, 8, 48, 64);
         due("queued()", x.queued(), 4);
         x.make();
@@ -320,7 +253,7 @@ public final class PromiseTest {
     }
 
     private static void window() {
-        LobbyMaker x = equals(7);
+        LobbyMaker x = alike(7);
         queueAll(x, 7, 56);
         refused("window(2)", INDEX, () -> x.window(2));
         refused("window(-1)", INDEX, () -> x.window(-1));
@@ -393,11 +326,11 @@ public final class PromiseTest {
     }
 
     private static void makeNone() {
-        LobbyMaker x = equals(8);
+        LobbyMaker x = alike(8);
         queueAll(x, 1, 2, 4, 8, 16);
         due("make() with five", x.make(), LobbyMaker.NONE);
         due("queued()", x.queued(), 5);
-        LobbyMaker y = equals(8);
+        LobbyMaker y = alike(8);
         queueAll(y, 3, 12, 48);
         due("make() with three parties of two", y.make(), LobbyMaker.NONE);
         y.queue(64);
@@ -414,11 +347,11 @@ public final class PromiseTest {
     }
 
     private static void makeSets() {
-        LobbyMaker x = equals(12);
+        LobbyMaker x = alike(12);
         queueAll(x, 3, 4, 8 + 16, 32, 64, 128, 256);
         due("make()", x.make(), 0);
         due("its players: the parties 0, 1, 2 and 3", x.team(0, 0) | x.team(0, 1), 63);
-        LobbyMaker y = equals(12);
+        LobbyMaker y = alike(12);
         queueAll(y, 1, 2, 4 + 8 + 16, 32 + 64 + 128, 256, 512);
         due("make()", y.make(), 0);
         due("its players: 0, 1, 2 and 4 go before 0, 1, 3 and 4", y.team(0, 0) | y.team(0, 1), 31 + 256);
@@ -514,7 +447,7 @@ public final class PromiseTest {
     }
 
     private static void makeNumbers() {
-        LobbyMaker x = equals(18);
+        LobbyMaker x = alike(18);
         queueAll(x, 7, 7 << 3, 7 << 6, 7 << 9, 7 << 12, 7 << 15);
         due("make()", x.make(), 0);
         due("make()", x.make(), 1);
@@ -526,7 +459,7 @@ public final class PromiseTest {
     }
 
     private static void accept() {
-        LobbyMaker x = equals(13);
+        LobbyMaker x = alike(13);
         queueAll(x, 7, 56, 7 << 6, 7 << 9);
         x.make();
         x.make();
@@ -569,7 +502,7 @@ public final class PromiseTest {
     }
 
     private static void decline() {
-        LobbyMaker x = equals(13);
+        LobbyMaker x = alike(13);
         queueAll(x, 3, 4, 56, 7 << 6, 7 << 9);
         x.make();
         x.make();
@@ -596,7 +529,7 @@ public final class PromiseTest {
     }
 
     private static void declineAgain() {
-        LobbyMaker x = equals(6);
+        LobbyMaker x = alike(6);
         x.queue(56);
         int[] minutes = {5, 10, 20, 40, 80, 80};
         for (int i = 0; i < minutes.length; i++) {
@@ -611,7 +544,7 @@ public final class PromiseTest {
     }
 
     private static void declineKeepsOrder() {
-        LobbyMaker x = equals(12);
+        LobbyMaker x = alike(12);
         queueAll(x, 1, 2, 4, 8, 16, 32, 64, 128);
         x.make();
         x.decline(0, 2);
@@ -622,7 +555,7 @@ public final class PromiseTest {
     }
 
     private static void finish() {
-        LobbyMaker x = equals(12);
+        LobbyMaker x = alike(12);
         queueAll(x, 7, 56);
         refused("finish(0, 0)", INDEX, () -> finish(x, 0, 0));
         refused("finish(0, 2)", INDEX, () -> finish(x, 0, 2));
@@ -653,17 +586,6 @@ public final class PromiseTest {
         refused("finish(1, 0), off", STATE, () -> finish(x, 1, 0));
         finishShares();
         finishLevels();
-    }
-
-    private static long finish(LobbyMaker x, int match, int winner) {
-        x.finish(match, winner);
-        return 0;
-    }
-
-    private static void ratingsDue(LobbyMaker x, int... due) {
-        for (int i = 0; i < due.length; i++) {
-            due("rating(" + i + ")", x.rating(i), due[i]);
-        }
     }
 
     /** A match of two parties of three. */
@@ -712,7 +634,7 @@ public final class PromiseTest {
     }
 
     private static void finishLevels() {
-        LobbyMaker x = equals(6);
+        LobbyMaker x = alike(6);
         queueAll(x, 7, 56);
         x.make();
         x.decline(0, 0);
@@ -732,7 +654,7 @@ public final class PromiseTest {
     }
 
     private static void matches() {
-        LobbyMaker x = equals(12);
+        LobbyMaker x = alike(12);
         due("matches()", x.matches(), 0);
         x.make();
         due("matches() after none was made", x.matches(), 0);
@@ -755,7 +677,7 @@ public final class PromiseTest {
     }
 
     private static void matchState() {
-        LobbyMaker x = equals(12);
+        LobbyMaker x = alike(12);
         noSuchMatch("matchState", x, x::matchState);
         queueAll(x, 7, 56, 7 << 6, 7 << 9);
         x.make();
@@ -772,7 +694,7 @@ public final class PromiseTest {
     }
 
     private static void team() {
-        LobbyMaker x = equals(7);
+        LobbyMaker x = alike(7);
         refused("team(0, 0)", INDEX, () -> x.team(0, 0));
         refused("team(0, 2)", INDEX, () -> x.team(0, 2));
         queueAll(x, 2 + 64, 1 + 8, 4, 32);
@@ -804,7 +726,7 @@ public final class PromiseTest {
     }
 
     private static void pass() {
-        LobbyMaker x = equals(13);
+        LobbyMaker x = alike(13);
         for (int minutes : new int[] {0, -1, 1001, LEAST, MOST}) {
             refused("pass(" + minutes + ")", RANGE, () -> x.pass(minutes));
         }
@@ -840,7 +762,7 @@ public final class PromiseTest {
     }
 
     private static void passTooLong() {
-        LobbyMaker x = equals(18);
+        LobbyMaker x = alike(18);
         queueAll(x, 7, 7 << 3, 7 << 6, 7 << 9, 7 << 12, 7 << 15);
         x.make();
         x.pass(1);
@@ -860,7 +782,7 @@ public final class PromiseTest {
     }
 
     private static void passLate() {
-        LobbyMaker x = equals(6);
+        LobbyMaker x = alike(6);
         queueAll(x, 7, 56);
         x.make();
         acceptAll(x, 0, 62);
@@ -873,7 +795,7 @@ public final class PromiseTest {
     }
 
     private static void passEnd() {
-        LobbyMaker x = equals(6);
+        LobbyMaker x = alike(6);
         for (int i = 0; i < 99; i++) {
             due("pass(1000)", x.pass(1000), 0);
         }
@@ -892,7 +814,7 @@ public final class PromiseTest {
     }
 
     private static void clock() {
-        LobbyMaker x = equals(1);
+        LobbyMaker x = alike(1);
         due("clock()", x.clock(), 0);
         x.pass(1);
         due("clock()", x.clock(), 1);
@@ -924,16 +846,9 @@ public final class PromiseTest {
             PromiseTest::finish, PromiseTest::matches, PromiseTest::matchState, PromiseTest::team,
             PromiseTest::unevenness, PromiseTest::pass, PromiseTest::clock,
         };
-        for (promise = 0; promise < promises.length; promise++) {
-            try {
-                promises[promise].run();
-            } catch (RuntimeException e) {
-                fail("a call threw " + e + " at " + e.getStackTrace()[1]);
-            }
+        for (int promise = 0; promise < promises.length; promise++) {
+            run("promise " + promise, promises[promise]);
         }
-        System.out.println(wrong == 0 ? "all answers are as due" : wrong + " answers are not as due");
-        if (wrong != 0) {
-            System.exit(1);
-        }
+        end("all answers are as due", "answers are not as due");
     }
 }

@@ -3,10 +3,9 @@ import java.util.List;
 import java.util.Random;
 
 /** Random runs of 512 calls, each answer against a slow model that follows the document word by word. */
-public final class RandomRunsTest {
+public final class RandomRunsTest extends LobbyTest {
     private static final int RUNS = 3000;
     private static final int CALLS = 512;
-    private static final int OPERATIONS = 23;
 
     /** What the document says of a call that throws, for the model. */
     private static final class Refusal extends RuntimeException {
@@ -358,33 +357,6 @@ public final class RandomRunsTest {
         }
     }
 
-    private static int answer(LobbyMaker x, int operation, int a, int b) {
-        switch (operation) {
-            case 0: return x.addPlayer(a, b);
-            case 1: return x.queue(a);
-            case 2: return x.leave(a);
-            case 3: return x.players();
-            case 4: return x.state(a);
-            case 5: return x.rating(a);
-            case 6: return x.uncertainty(a);
-            case 7: return x.level(a);
-            case 8: return x.barred(a);
-            case 9: return x.queued();
-            case 10: return x.window(a);
-            case 11: return x.fit(a, b) ? 1 : 0;
-            case 12: return x.make();
-            case 13: return x.accept(a, b) ? 1 : 0;
-            case 14: return x.decline(a, b);
-            case 15: x.finish(a, b); return 0;
-            case 16: return x.matches();
-            case 17: return x.matchState(a);
-            case 18: return x.team(a, b);
-            case 19: return x.unevenness(a);
-            case 20: return x.pass(a);
-            default: return x.clock();
-        }
-    }
-
     private static String told(Model model, int operation, int a, int b) {
         try {
             return "" + model.answer(operation, a, b);
@@ -397,8 +369,7 @@ public final class RandomRunsTest {
         try {
             return "" + answer(x, operation, a, b);
         } catch (RuntimeException e) {
-            boolean own = e.getStackTrace().length > 0 && e.getStackTrace()[0].getClassName().startsWith("LobbyMaker");
-            return own ? e.getClass().getSimpleName() : "not by a throw statement of its own: " + e;
+            return thrownByItself(e) ? e.getClass().getSimpleName() : "not by a throw statement of its own: " + e;
         }
     }
 
@@ -417,7 +388,7 @@ public final class RandomRunsTest {
             single = random.nextInt(101);
             odd = new int[] {0, 2, 10}[random.nextInt(3)];
             late = random.nextInt(4) == 0 ? 1000 : random.nextInt(2) == 0 ? 20 : 3;
-            int[] usual = {1, 20, 2, 1, 2, 2, 2, 2, 2, 2, 4, 4, 8, 40, 1 + random.nextInt(6), 8, 1, 3, 4, 3, 6, 1, 0};
+            int[] usual = {1, 20, 2, 1, 2, 2, 2, 2, 2, 2, 4, 4, 8, 40, 1 + random.nextInt(6), 8, 1, 3, 4, 3, 6, 1};
             for (int i = 0; i < OPERATIONS; i++) {
                 weights[i] = usual[i] * (1 + random.nextInt(4));
             }
@@ -520,7 +491,7 @@ public final class RandomRunsTest {
 
     private static final int[] REACHED = new int[8];
 
-    private static boolean run(long seed) {
+    private static void run(long seed) {
         Taste taste = new Taste(seed);
         LobbyMaker x = new LobbyMaker();
         Model model = new Model();
@@ -531,13 +502,12 @@ public final class RandomRunsTest {
             String want = told(model, operation, a, b);
             String got = told(x, operation, a, b);
             if (!got.equals(want)) {
-                System.out.println("run " + seed + ", call " + call + ": operation " + operation + " of " + a + ", " + b
+                fail("run " + seed + ", call " + call + ": operation " + operation + " of " + a + ", " + b
                         + " answered " + got + ", due is " + want);
-                return false;
+                return;
             }
         }
         count(model);
-        return true;
     }
 
     private static void count(Model model) {
@@ -552,15 +522,12 @@ public final class RandomRunsTest {
     }
 
     public static void main(String[] args) {
-        int wrong = 0;
         for (int seed = 1; seed <= RUNS; seed++) {
-            wrong += run(seed) ? 0 : 1;
+            run(seed);
         }
-        System.out.println(RUNS + " runs, " + wrong + " wrong; matches made, on, off, finished; runs with 100 parties, "
+        System.out.println(RUNS + " runs; matches made, on, off, finished; runs with 100 parties, "
                 + "at the end of the clock; players at the level 5, at a bound of the ratings: "
                 + java.util.Arrays.toString(REACHED));
-        if (wrong != 0) {
-            System.exit(1);
-        }
+        end("all runs are as due", "runs are not as due");
     }
 }

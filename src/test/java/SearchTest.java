@@ -1,19 +1,10 @@
 import java.lang.management.ManagementFactory;
 
 /** The dearest searches for a match: that they end, with the right answer, and that they leave nothing behind. */
-public final class SearchTest {
+public final class SearchTest extends LobbyTest {
     private static final int CALLS = 512;
     /** Far below the room of a run, which is some 600,000 objects; what 512 calls keep is some 1,000 of them. */
-    private static final long BYTES = 200_000;
-
-    private static int wrong = 0;
-
-    private static void due(String what, long got, long want) {
-        if (got != want) {
-            wrong++;
-            System.out.println(what + " answered " + got + ", due is " + want);
-        }
-    }
+    private static final long BYTES = 100_000;
 
     private static long allocated() {
         com.sun.management.ThreadMXBean threads = (com.sun.management.ThreadMXBean) ManagementFactory.getThreadMXBean();
@@ -32,16 +23,22 @@ public final class SearchTest {
         return x;
     }
 
+    private static void roomKept(String what, long before) {
+        long bytes = allocated() - before;
+        if (bytes > BYTES) {
+            fail(what + " made " + bytes + " bytes of objects");
+        }
+    }
+
     private static void none(String what, LobbyMaker x) {
+        int found = 0;
         long before = allocated();
         for (int call = 37; call < CALLS; call++) {
-            due("make() of " + what, x.make(), LobbyMaker.NONE);
+            found += x.make() == LobbyMaker.NONE ? 0 : 1;
         }
+        roomKept("make() of " + what, before);
+        due("make() of " + what + ", how often it is not NONE,", found, 0);
         due("queued() of " + what, x.queued(), 18);
-        if (allocated() - before > BYTES) {
-            wrong++;
-            System.out.println("make() of " + what + " made " + (allocated() - before) + " bytes of objects");
-        }
     }
 
     private static void lastOnes() {
@@ -54,26 +51,24 @@ public final class SearchTest {
 
     /** A hundred parties, and as many matches as they can be in: each match loses the party of its last player. */
     private static void manyMatches() {
-        LobbyMaker x = new LobbyMaker();
+        int[] made = new int[95];
+        int[] bars = new int[95];
         long before = allocated();
-        for (int i = 0; i < 6; i++) {
-            x.addPlayer(1000, 7);
-        }
-        for (int i = 0; i < 5; i++) {
-            x.queue(1 << i);
-        }
+        LobbyMaker x = alike(6);
+        queueAll(x, 1, 2, 4, 8, 16);
         for (int i = 0; i < 95; i++) {
-            due("queue(32)", x.queue(32), 5 + i);
-            due("make()", x.make(), i);
-            due("decline(" + i + ", 5)", x.decline(i, 5), i < 5 ? 5 << i : 80);
-            due("pass(80)", x.pass(80), 0);
+            x.queue(32);
+            made[i] = x.make();
+            bars[i] = x.decline(made[i], 5);
+            x.pass(80);
+        }
+        roomKept("95 matches", before);
+        for (int i = 0; i < 95; i++) {
+            due("make()", made[i], i);
+            due("decline(" + i + ", 5)", bars[i], i < 5 ? 5 << i : 80);
         }
         due("matches()", x.matches(), 95);
         due("queued()", x.queued(), 5);
-        if (allocated() - before > BYTES) {
-            wrong++;
-            System.out.println("95 matches made " + (allocated() - before) + " bytes of objects");
-        }
     }
 
     public static void main(String[] args) {
@@ -87,9 +82,6 @@ public final class SearchTest {
         none("one, the other or both", singles(1, 2, 3, 1, 2, 3, 1, 2, 3, 1, 2, 3, 1, 2, 3, 1, 2, 4));
         lastOnes();
         manyMatches();
-        System.out.println(wrong == 0 ? "all answers are as due" : wrong + " answers are not as due");
-        if (wrong != 0) {
-            System.exit(1);
-        }
+        end("all answers are as due", "answers are not as due");
     }
 }
